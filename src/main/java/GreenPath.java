@@ -844,8 +844,11 @@ public final class GreenPath {
             }
         }
 
-        /** T, A, B, S, P are levels 0 to 4. False: with the byte at which it stands no TEXT goes on. */
-        boolean readLevel(int level) {
+        /**
+         * T, A, B, S, P are levels 0 to 4, and Q is beyond them. False: with the byte at which it stands no TEXT goes
+         * on. How many ! and ( are open keeps the calls from going deep.
+         */
+        private boolean readLevel(int level) {
             if (level > 4) {
                 return readSingle();
             }
@@ -864,7 +867,7 @@ public final class GreenPath {
             return true;
         }
 
-        boolean readSingle() {
+        private boolean readSingle() {
             int sign = sign();
             if (sign >= '0' && sign <= '9') {
                 return readNumber();
@@ -908,7 +911,7 @@ public final class GreenPath {
                     values[top] = item >= 0 ? item : item == -1 ? a : item == -2 ? b : item == -3 ? c : d;
                     top++;
                 } else if (item == -'!' && top >= 1) {
-                    values[top - 1] = truth(values[top - 1] == 0);
+                    values[top - 1] = values[top - 1] == 0 ? 1 : 0;
                 } else if (top >= 2) {
                     top--;
                     values[top - 1] = joined(-item, values[top - 1], values[top]);
@@ -919,21 +922,17 @@ public final class GreenPath {
 
         static int joined(int sign, int left, int right) {
             switch (sign) {
-                case '|': return truth(left != 0 || right != 0);
-                case '&': return truth(left != 0 && right != 0);
-                case '<': return truth(left < right);
-                case '=': return truth(left == right);
-                case '>': return truth(left > right);
+                case '|': return left != 0 || right != 0 ? 1 : 0;
+                case '&': return left != 0 && right != 0 ? 1 : 0;
+                case '<': return left < right ? 1 : 0;
+                case '=': return left == right ? 1 : 0;
+                case '>': return left > right ? 1 : 0;
                 case '+': return left + right;
                 case '-': return left - right;
                 case '*': return left * right;
                 case '/': return right == 0 ? 0 : left / right;
                 default: return right == 0 ? 0 : left % right;
             }
-        }
-
-        static int truth(boolean good) {
-            return good ? 1 : 0;
         }
     }
 

@@ -14,6 +14,15 @@ final class Due {
         this.test = test;
     }
 
+    /** A new object with so many beings of each SORT. */
+    static GreenPath island(int first, int second, int third) {
+        GreenPath x = new GreenPath();
+        x.be(0, first);
+        x.be(1, second);
+        x.be(2, third);
+        return x;
+    }
+
     void is(String call, long got, long want) {
         asked++;
         if (got != want) {
@@ -22,10 +31,6 @@ final class Due {
                 System.out.println(test + ": " + call + " answered " + got + ", due is " + want);
             }
         }
-    }
-
-    int wrong() {
-        return wrong;
     }
 
     void end() {

@@ -11,16 +11,8 @@ public final class MeetingsTest {
         DUE.end();
     }
 
-    private static GreenPath island(int first, int second, int third) {
-        GreenPath x = new GreenPath();
-        x.be(0, first);
-        x.be(1, second);
-        x.be(2, third);
-        return x;
-    }
-
     private static void meetings() {
-        GreenPath x = island(2, 2, 1);
+        GreenPath x = Due.island(2, 2, 1);
         DUE.is("THIRD", x.meet(1), 169 + 13 + 3);
         DUE.is("alike as LAW", x.meet(5), 169 + 13 + 3);
         DUE.is("too few", x.meet(0), Due.STATE);
@@ -42,7 +34,7 @@ public final class MeetingsTest {
         DUE.is("meet -1", x.meet(-1), Due.BEYOND);
         DUE.is("MET then", x.count(2), 7);
         DUE.is("SPENT", x.count(3), 7);
-        x = island(6, 6, 0);
+        x = Due.island(6, 6, 0);
         x.law(1, 30);
         DUE.is("13 of it", x.meet(1), Due.STATE);
         x.be(0, 5);
@@ -50,7 +42,7 @@ public final class MeetingsTest {
     }
 
     private static void toldAnew() {
-        GreenPath x = island(3, 3, 0);
+        GreenPath x = Due.island(3, 3, 0);
         x.law(1, 60);
         DUE.is("GIVES 1", x.meet(1), 2 * 169 + 4 * 13);
         TextsTest.feedAll(x, "2");
@@ -62,7 +54,7 @@ public final class MeetingsTest {
     }
 
     private static void prices() {
-        GreenPath x = island(0, 5, 5);
+        GreenPath x = Due.island(0, 5, 5);
         TextsTest.feedAll(x, "a*27+b*9+k*3+t");
         DUE.is("text", x.text(1), 1);
         x.law(4, 0);
@@ -94,7 +86,7 @@ public final class MeetingsTest {
         DUE.is("MET", x.count(2), 1);
         z = (z * 1103515245 + 12345) * 1103515245 + 12345;
         DUE.is("drawn all the same", x.count(7), (z * 1103515245 + 12345) * 1103515245 + 12345);
-        x = island(1, 2, 1);
+        x = Due.island(1, 2, 1);
         x.seed(77);
         int one = 77 * 1103515245 + 12345;
         int other = one * 1103515245 + 12345;
@@ -112,7 +104,7 @@ public final class MeetingsTest {
     }
 
     private static void limits() {
-        GreenPath x = island(0, 0, 2);
+        GreenPath x = Due.island(0, 0, 2);
         TextsTest.feedAll(x, "99");
         x.text(1);
         for (int i = 0; i < 166; i++) {
@@ -134,14 +126,14 @@ public final class MeetingsTest {
         DUE.is("MAY all the same", x.ofPair(5, 3), 1);
         x.be(2, 0);
         DUE.is("chance of none there", x.chance(1), Due.STATE);
-        x = island(2, 0, 0);
+        x = Due.island(2, 0, 0);
         for (int i = 0; i < 166; i++) {
             x.chance(60);
         }
         DUE.is("one too many", x.chance(40), Due.STATE);
         DUE.is("all the way to 9999", x.chance(39), 338);
         DUE.is("MET all the way", x.count(2), 9999);
-        x = island(2, 0, 0);
+        x = Due.island(2, 0, 0);
         TextsTest.feedAll(x, "0-99");
         x.text(1);
         for (int i = 0; i < 20; i++) {

@@ -11,6 +11,7 @@ public final class SearchTest {
         rests();
         sureEnds();
         fencesThatAre();
+        longWays();
         changedRules();
         twelve();
         nobody();
@@ -18,16 +19,8 @@ public final class SearchTest {
         DUE.end();
     }
 
-    private static GreenPath island(int first, int second, int third) {
-        GreenPath x = new GreenPath();
-        x.be(0, first);
-        x.be(1, second);
-        x.be(2, third);
-        return x;
-    }
-
     private static void twoUnlike() {
-        GreenPath x = island(1, 1, 0);
+        GreenPath x = Due.island(1, 1, 0);
         DUE.is("reach now", x.reach(182), 0);
         DUE.is("reach", x.reach(2), 1);
         DUE.is("reach not", x.reach(26), Due.NONE);
@@ -73,7 +66,7 @@ public final class SearchTest {
     }
 
     private static void eaten() {
-        GreenPath x = island(3, 1, 0);
+        GreenPath x = Due.island(3, 1, 0);
         x.law(1, 20);
         x.fence(0, 1);
         DUE.is("reach", x.reach(13), 3);
@@ -99,7 +92,7 @@ public final class SearchTest {
     }
 
     private static void firstRow() {
-        GreenPath x = island(2, 2, 0);
+        GreenPath x = Due.island(2, 2, 0);
         x.law(0, 20);
         x.law(3, 20);
         x.fence(1, 1);
@@ -111,18 +104,18 @@ public final class SearchTest {
     }
 
     private static void leastEnd() {
-        GreenPath x = island(0, 1, 1);
+        GreenPath x = Due.island(0, 1, 1);
         DUE.is("two of 0", x.can(0, 1), 338);
         x.law(4, 50);
         DUE.is("one of 0", x.can(0, 1), 169);
         x.law(4, 66);
         DUE.is("three of 0", x.can(0, 1), 507);
-        x = island(2, 1, 0);
+        x = Due.island(2, 1, 0);
         x.law(0, 31);
         x.law(1, 52);
         DUE.is("nearer than less", x.can(0, 1), 338);
         // by PAIRS 1, 1 there come 6 of SORT 0, by 3, 2 there come 2: as few MEETINGS, and found later
-        x = island(2, 2, 0);
+        x = Due.island(2, 2, 0);
         TextsTest.feedAll(x, "0");
         x.text(0);
         x.law(1, 66);
@@ -135,7 +128,7 @@ public final class SearchTest {
     }
 
     private static void growing() {
-        GreenPath x = island(1, 1, 10);
+        GreenPath x = Due.island(1, 1, 10);
         x.law(1, 30);
         x.fence(5, 1);
         x.fence(2, 1);
@@ -147,7 +140,7 @@ public final class SearchTest {
         // by PAIRS 1, 1, 0: 1 * 2 * 3; by 1, 0, 1: 1 * 1 * 2; by 1, 0, 0: 1; by 1, 1, 1 there would be 13
         DUE.is("none beyond", x.allWays(3), 9);
         DUE.is("ways up to 12", x.ways(2, 3 * 169 + 13 + 8), 2);
-        x = island(0, 0, 12);
+        x = Due.island(0, 0, 12);
         x.law(5, 0);
         DUE.is("most ways", x.allWays(6), 66L * 66 * 66 * 66 * 66 * 66);
         DUE.is("most ways to one", x.ways(6, 12), 82653950016L);
@@ -182,17 +175,17 @@ public final class SearchTest {
         DUE.is("EAT alone", x.stays(4, -1), 16);
         x.law(0, 31);
         DUE.is("SPLIT alone, as if there were enough", x.stays(4, 3), 16);
-        x = island(1, 2, 4);
+        x = Due.island(1, 2, 4);
         DUE.is("bars 0", x.bars(0, 3), 1);
         DUE.is("bars 1", x.bars(1, 3), 0);
         DUE.is("bars 2", x.bars(2, 3), 1);
-        x = island(2, 4, 1);
+        x = Due.island(2, 4, 1);
         DUE.is("bars by rests of 2, 4, 1", x.bars(0, 3) * 100 + x.bars(1, 3) * 10 + x.bars(2, 3), 11);
-        x = island(4, 1, 2);
+        x = Due.island(4, 1, 2);
         DUE.is("bars by rests of 4, 1, 2", x.bars(0, 3) * 100 + x.bars(1, 3) * 10 + x.bars(2, 3), 110);
-        x = island(3, 3, 3);
+        x = Due.island(3, 3, 3);
         DUE.is("bars none", x.bars(0, 3) + x.bars(1, 3) + x.bars(2, 3), 0);
-        x = island(0, 0, 5);
+        x = Due.island(0, 0, 5);
         DUE.is("bars what is", x.bars(2, 3), 0);
         DUE.is("bars else", x.bars(1, 3), 1);
         DUE.is("bars 6", x.bars(0, 6), Due.BEYOND);
@@ -201,9 +194,9 @@ public final class SearchTest {
     }
 
     private static void sureEnds() {
-        GreenPath x = island(2, 1, 0);
+        GreenPath x = Due.island(2, 1, 0);
         DUE.is("the other one turns away", x.force(2), Due.NONE);
-        x = island(1, 1, 1);
+        x = Due.island(1, 1, 1);
         DUE.is("the first one chooses 0", x.force(0), 1);
         DUE.is("the first one chooses 1", x.force(1), 1);
         DUE.is("the first one chooses 2", x.force(2), 1);
@@ -232,7 +225,7 @@ public final class SearchTest {
     }
 
     private static void changedRules() {
-        GreenPath x = island(1, 1, 0);
+        GreenPath x = Due.island(1, 1, 0);
         x.law(1, 60);
         DUE.is("way by GIVES 1", x.way(26, 0), 1);
         DUE.is("reach by GIVES 1", x.reach(26), 1);
@@ -259,11 +252,11 @@ public final class SearchTest {
     }
 
     private static void twelve() {
-        GreenPath x = island(1, 1, 10);
+        GreenPath x = Due.island(1, 1, 10);
         DUE.is("all 12", x.can(2, 1), 12);
         DUE.is("all 12 kept away", x.fences(2, 1), 2);
         DUE.is("all 12 forced", x.force(2), 1);
-        x = island(0, 0, 12);
+        x = Due.island(0, 0, 12);
         DUE.is("12 now", x.can(2, 0), 0);
         DUE.is("12 were", x.was(1, 0), 2);
         DUE.is("12 were, the least", x.was(1, 1), 12);
@@ -289,7 +282,7 @@ public final class SearchTest {
     }
 
     private static void fencesThatAre() {
-        GreenPath y = island(2, 2, 0);
+        GreenPath y = Due.island(2, 2, 0);
         y.law(0, 50);
         y.law(1, 52);
         y.law(3, 51);
@@ -299,7 +292,7 @@ public final class SearchTest {
         y.fence(3, 1);
         DUE.is("one more", y.fences(0, 0), 1);
         DUE.is("one more, which", y.fences(0, 1), 2);
-        y = island(2, 1, 0);
+        y = Due.island(2, 1, 0);
         y.law(0, 51);
         y.law(3, 51);
         y.fence(2, 1);
@@ -307,12 +300,12 @@ public final class SearchTest {
         y.law(1, 20);
         DUE.is("either does", y.fences(0, 0), 1);
         DUE.is("the least does", y.fences(0, 1), 1);
-        y = island(3, 1, 0);
+        y = Due.island(3, 1, 0);
         y.law(1, 52);
         y.law(0, 50);
         // 0 and 1 become 0 whatever else: PAIR 0 alone is no good
         DUE.is("not the first", y.fences(0, 1), 2);
-        GreenPath x = island(2, 2, 0);
+        GreenPath x = Due.island(2, 2, 0);
         x.law(0, 50);
         x.law(1, 50);
         x.law(3, 51);
@@ -331,8 +324,31 @@ public final class SearchTest {
         DUE.is("none more which", x.fences(0, 1), 0);
     }
 
+    /** Ends that are reached by a longer way, too, which other fences are wanted for. */
+    private static void longWays() {
+        longWay(new int[] {44, 16, 47, 46, 43, 2}, 2, 2, 1, 6);
+        longWay(new int[] {57, 44, 68, 47, 25, 17}, 3, 0, 1, 16);
+        longWay(new int[] {58, 62, 12, 50, 54, 65}, 0, 3, 2, 2);
+        longWay(new int[] {53, 11, 47, 25, 24, 52}, 3, 2, 1, 5);
+    }
+
+    private static void longWay(int[] laws, int first, int second, int third, int want) {
+        GreenPath x = Due.island(first, second, third);
+        Model y = new Model();
+        y.be(0, first);
+        y.be(1, second);
+        y.be(2, third);
+        for (int pair = 0; pair < 6; pair++) {
+            x.law(pair, laws[pair]);
+            y.law(pair, laws[pair]);
+        }
+        DUE.is("the model's fences", y.fences(2, 1), want);
+        DUE.is("fences of a longer way", x.fences(2, 1), want);
+        DUE.is("so many", x.fences(2, 0), Integer.bitCount(want));
+    }
+
     private static void wrongInputs() {
-        GreenPath x = island(1, 1, 1);
+        GreenPath x = Due.island(1, 1, 1);
         int[] noStates = {-1, 2197, 2029, 13 * 12 + 1, 12 * 169 + 13, Integer.MIN_VALUE, Integer.MAX_VALUE};
         for (int state : noStates) {
             DUE.is("reach " + state, x.reach(state), Due.BEYOND);
