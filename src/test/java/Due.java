@@ -7,6 +7,7 @@ final class Due {
     static final int KIND = -1000000005;
 
     private final String test;
+    private String sentence = "";
     private int asked;
     private int wrong;
 
@@ -23,13 +24,37 @@ final class Due {
         return x;
     }
 
+    /** The STATE of so many beings of each SORT. */
+    static int state(int first, int second, int third) {
+        return first * 169 + second * 13 + third;
+    }
+
+    /**
+     * The words of the document that the answers from here on are due by: where they stand ("Terms", "Promise 2"), and
+     * the words. SentencesTest looks whether they stand there, and whether none of the document's words is left out.
+     */
+    void says(String where, String words) {
+        sentence = where + " (" + words + ") ";
+    }
+
     void is(String call, long got, long want) {
         asked++;
         if (got != want) {
-            wrong++;
-            if (wrong <= 50) {
-                System.out.println(test + ": " + call + " answered " + got + ", due is " + want);
-            }
+            tellWrong(call + " answered " + got + ", due is " + want);
+        }
+    }
+
+    void is(String call, String got, String want) {
+        asked++;
+        if (!got.equals(want)) {
+            tellWrong(call + " answered " + got + ", due is " + want);
+        }
+    }
+
+    private void tellWrong(String words) {
+        wrong++;
+        if (wrong <= 50) {
+            System.out.println(test + ": " + sentence + words);
         }
     }
 
