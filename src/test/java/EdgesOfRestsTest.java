@@ -123,7 +123,18 @@ public final class EdgesOfRestsTest {
         barred(Due.island(4, 1, 2), 3, "110");
         barred(Due.island(3, 3, 3), 3, "000");
         barred(Due.island(1, 2, 4), 2, "000");
-        GreenPath x = eating(0, 3, 5);
+        // 0 and 1 become two of 2, whose weight must be 0: so those of 0 and 1 are k together, and these alone bar
+        GreenPath x = eating(5);
+        x.fence(1, 0);
+        x.be(0, 1);
+        x.be(2, 1);
+        DUE.is("the only weights by 2", x.stays(2, 0), 6);
+        barred(x, 2, "111");
+        DUE.is("the first weights by 3", x.stays(3, 0), 15);
+        barred(x, 3, "101");
+        DUE.is("the first weights by 5", x.stays(5, 0), 45);
+        barred(x, 5, "111");
+        x = eating(0, 3, 5);
         x.be(0, 1);
         x.be(1, 2);
         for (int k = 2; k <= 5; k++) {

@@ -208,11 +208,7 @@ public final class EdgesOfSearchesTest {
             DUE.is("of " + first + " and 1", eater(first, 1).reached(), first + 1);
         }
         // all but that of nobody
-        GreenPath x = Due.island(4, 0, 7);
-        int[] laws = {33, 41, 45, 54, 26, 56};
-        for (int pair = 0; pair < 6; pair++) {
-            x.law(pair, laws[pair]);
-        }
+        GreenPath x = ruled(new int[] {33, 41, 45, 54, 26, 56}, 4, 0, 7);
         DUE.is("the most", x.reached(), 454);
         int found = 0;
         for (int told = 0; told <= 2028; told++) {
@@ -295,24 +291,23 @@ public final class EdgesOfSearchesTest {
         DUE.is("one more", x.fences(0, 0), 1);
         x.fence(1, 1);
         DUE.is("none more", x.fences(0, 0), 0);
+        DUE.is("an END of 12", Due.island(1, 1, 10).fences(2, 0), 1);
+        DUE.is("an END of 12, which", Due.island(1, 1, 10).fences(2, 1), 2);
+        DUE.is("an END of one", eater(1, 1).fences(1, 0), 1);
         three(7, new int[] {62, 24, 15, 54, 57, 59}, 1, 4, 6);
         three(38, new int[] {43, 47, 12, 67, 11, 60}, 0, 2, 2);
     }
 
     /** Three fences keep the END of SORT 1 away, and no two. */
     private static void three(int want, int[] laws, int first, int second, int third) {
-        GreenPath x = Due.island(first, second, third);
-        for (int pair = 0; pair < 6; pair++) {
-            x.law(pair, laws[pair]);
-        }
+        GreenPath x = ruled(laws, first, second, third);
         DUE.is("three", x.fences(1, 0), 3);
         DUE.is("which three", x.fences(1, 1), want);
         for (int set = 0; set < 64; set++) {
             boolean few = Integer.bitCount(set) < 3 || Integer.bitCount(set) == 3 && set < want;
             if (few || set == want) {
-                GreenPath y = Due.island(first, second, third);
+                GreenPath y = ruled(laws, first, second, third);
                 for (int pair = 0; pair < 6; pair++) {
-                    y.law(pair, laws[pair]);
                     y.fence(pair, set >> pair & 1);
                 }
                 DUE.is("can by " + set, y.can(1, 0) == Due.NONE ? 0 : 1, few ? 1 : 0);
@@ -362,8 +357,20 @@ public final class EdgesOfSearchesTest {
         x.fence(1, 1);
         DUE.is("FENCED 0", x.was(0, 0), 1);
         DUE.is("FENCED 1", x.was(1, 0), 0);
+        int[][] made = {{2, 0, 0}, {0, 2, 0}, {0, 0, 2}};
+        int[] likes = {0, 3, 5};
+        int[] unlikes = {4, 2, 1};
+        for (int sort = 0; sort < 3; sort++) {
+            x = Due.island(made[sort][0], made[sort][1], made[sort][2]);
+            DUE.is("itself, or the other two SORTS", x.was(1, 0), 2);
+            x.fence(likes[sort], 1);
+            DUE.is("the other two SORTS alone", x.was(1, 0), 1);
+            x.fence(likes[sort], 0);
+            x.fence(unlikes[sort], 1);
+            DUE.is("itself alone", x.was(1, 0), 1);
+            DUE.is("itself", x.was(1, 1), x.count(0));
+        }
         x = Due.island(0, 0, 2);
-        DUE.is("itself, or 0 and 1", x.was(1, 0), 2);
         DUE.is("six ago", x.was(6, 0), 2);
         x.fence(5, 1);
         DUE.is("0 and 1 alone", x.was(1, 0), 1);
@@ -432,6 +439,30 @@ public final class EdgesOfSearchesTest {
         x.be(0, 7);
         DUE.is("put off too far", x.force(1), Due.NONE);
         DUE.is("yet it can be", x.can(1, 0), 7);
+        forceInARing();
+    }
+
+    private static GreenPath ruled(int[] laws, int first, int second, int third) {
+        GreenPath x = Due.island(first, second, third);
+        for (int pair = 0; pair < 6; pair++) {
+            x.law(pair, laws[pair]);
+        }
+        return x;
+    }
+
+    /** The other one leads once round a ring, and then must leave the choice to the first one. */
+    private static void forceInARing() {
+        GreenPath x = ruled(new int[] {10, 52, 62, 20, 40, 60}, 0, 2, 1);
+        x.fence(0, 1);
+        x.fence(3, 1);
+        // 0 2 1 by PAIR 4 to 0 1 2; the other one by 4 to 0 0 3; by 5 to 0 2 1; by 4 to 0 1 2; the first one by 5 to 0 3 0
+        DUE.is("round a ring of three", x.force(1), 5);
+        DUE.is("together at once", x.can(1, 0), 2);
+        x = ruled(new int[] {10, 40, 10, 61, 50, 60}, 2, 0, 1);
+        x.fence(0, 1);
+        // 2 0 1 by PAIR 2 to 1 2 0; the other one by 1 to 0 3 0; by 3 to 2 1 0; by 1 to 1 2 0; the first one by 3 to 3 0 0
+        DUE.is("round another ring", x.force(0), 5);
+        DUE.is("together at once", x.can(0, 0), 2);
     }
 
     private static void noneOfState(String call, int state) {

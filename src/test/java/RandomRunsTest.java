@@ -2,15 +2,17 @@ import java.util.Random;
 
 /** Random runs of calls (always the same ones), of which the program and the model must answer each alike. */
 public final class RandomRunsTest {
-    private static final int RUNS = 300;
-    private static final int CALLS = 500;
+    private static final int RUNS = 600;
+    /** The document frees what an object answers behind so many calls; a step makes at most MOST_OF_A_STEP of them. */
+    private static final int CALLS = 512;
+    private static final int MOST_OF_A_STEP = 60;
     private static final String SIGNS = "abmkt0123456789|&<=>+-*/%!()";
 
     private final Due due = new Due("RandomRunsTest");
     private final Random random = new Random(20261118L);
     private GreenPath x;
     private Model y;
-    private int at;
+    private int calls;
 
     public static void main(String[] args) {
         new RandomRunsTest().run();
@@ -21,14 +23,20 @@ public final class RandomRunsTest {
             x = new GreenPath();
             y = new Model();
             boolean dense = random.nextBoolean();
-            for (at = 0; at < CALLS; at++) {
+            calls = 0;
+            while (calls + MOST_OF_A_STEP <= CALLS) {
                 step(run, dense);
             }
             for (int k = 1; k <= 5; k++) {
-                due.is(run + " told", x.told(k), y.told(k));
+                same(run + " told", x.told(k), y.told(k));
             }
         }
         due.end();
+    }
+
+    private void same(String call, long got, long want) {
+        calls++;
+        due.is(call, got, want);
     }
 
     /** A number from low to high, at times one next to or far beyond them. */
@@ -54,15 +62,24 @@ public final class RandomRunsTest {
         if (random.nextInt(3) == 0) {
             return near(0, 2200);
         }
-        int all = random.nextInt(3) == 0 ? random.nextInt(13) : Math.max(0, x.count(1));
-        y.count(1);
+        int all = random.nextInt(13);
+        if (random.nextInt(3) != 0) {
+            all = x.count(1);
+            same("count 1", all, y.count(1));
+        }
         int a = random.nextInt(all + 1);
         int b = random.nextInt(all - a + 1);
         return a * 169 + b * 13 + all - a - b;
     }
 
+    private int stateNow() {
+        int state = x.count(0);
+        same("count 0", state, y.count(0));
+        return state;
+    }
+
     private void step(int run, boolean dense) {
-        String call = "run " + run + " call " + at + " ";
+        String call = "run " + run + " call " + calls + " ";
         switch (random.nextInt(7)) {
             case 0: beings(call, dense); break;
             case 1: texts(call); break;
@@ -80,32 +97,32 @@ public final class RandomRunsTest {
             case 0: {
                 int sort = near(0, 2);
                 int v = near(0, dense ? 12 : 4);
-                due.is(call + "be " + sort + " " + v, x.be(sort, v), y.be(sort, v));
+                same(call + "be " + sort + " " + v, x.be(sort, v), y.be(sort, v));
                 break;
             }
             case 1: {
                 int sort = near(0, 2);
-                due.is(call + "of", x.of(sort), y.of(sort));
+                same(call + "of", x.of(sort), y.of(sort));
                 break;
             }
             case 2: {
                 int km = near(0, 69);
-                due.is(call + "law " + pair + " " + km, x.law(pair, km), y.law(pair, km));
+                same(call + "law " + pair + " " + km, x.law(pair, km), y.law(pair, km));
                 break;
             }
             case 3: {
                 int v = random.nextInt(4) == 0 ? near(0, 1) : 0;
-                due.is(call + "fence " + pair + " " + v, x.fence(pair, v), y.fence(pair, v));
+                same(call + "fence " + pair + " " + v, x.fence(pair, v), y.fence(pair, v));
                 break;
             }
             case 4: {
                 int kind = near(0, 6);
-                due.is(call + "as " + pair + " " + kind, x.as(pair, kind), y.as(pair, kind));
+                same(call + "as " + pair + " " + kind, x.as(pair, kind), y.as(pair, kind));
                 break;
             }
             default: {
                 int what = near(0, 7);
-                due.is(call + "ofPair " + pair + " " + what, x.ofPair(pair, what), y.ofPair(pair, what));
+                same(call + "ofPair " + pair + " " + what, x.ofPair(pair, what), y.ofPair(pair, what));
                 break;
             }
         }
@@ -128,21 +145,21 @@ public final class RandomRunsTest {
         switch (random.nextInt(3)) {
             case 0: {
                 int[] v = {any(), any(), any(), any()};
-                due.is(call + "gives " + use, x.gives(use, v[0], v[1], v[2], v[3]), y.gives(use, v[0], v[1], v[2], v[3]));
+                same(call + "gives " + use, x.gives(use, v[0], v[1], v[2], v[3]), y.gives(use, v[0], v[1], v[2], v[3]));
                 break;
             }
             case 1: {
                 long word = random.nextLong();
                 int n = near(1, 8);
-                due.is(call + "feed", x.feed(word, n), y.feed(word, n));
+                same(call + "feed", x.feed(word, n), y.feed(word, n));
                 break;
             }
             default:
                 if (random.nextInt(3) > 0) {
-                    due.is(call + "text", x.text(0), y.text(0));
+                    same(call + "text", x.text(0), y.text(0));
                 }
                 feedText(call, use);
-                due.is(call + "text " + use, x.text(use), y.text(use));
+                same(call + "text " + use, x.text(use), y.text(use));
                 break;
         }
     }
@@ -154,7 +171,7 @@ public final class RandomRunsTest {
             text.setCharAt(place, SIGNS.charAt(random.nextInt(SIGNS.length())));
         }
         for (int i = 0; i < text.length() && i < 50; i++) {
-            due.is(call + "feed " + text, x.feed(text.charAt(i), 1), y.feed(text.charAt(i), 1));
+            same(call + "feed " + text, x.feed(text.charAt(i), 1), y.feed(text.charAt(i), 1));
         }
     }
 
@@ -162,9 +179,9 @@ public final class RandomRunsTest {
         int pair = near(0, 5);
         int n = near(1, 60);
         if (random.nextInt(3) == 0) {
-            due.is(call + "chance " + n, x.chance(n), y.chance(n));
+            same(call + "chance " + n, x.chance(n), y.chance(n));
         } else {
-            due.is(call + "meet " + pair, x.meet(pair), y.meet(pair));
+            same(call + "meet " + pair, x.meet(pair), y.meet(pair));
         }
     }
 
@@ -174,19 +191,19 @@ public final class RandomRunsTest {
         int state = stateNear();
         int n = near(0, 6);
         switch (random.nextInt(11)) {
-            case 0: due.is(call + "reach " + state, x.reach(state), y.reach(state)); break;
+            case 0: same(call + "reach " + state, x.reach(state), y.reach(state)); break;
             case 1: {
                 int i = near(0, 4);
-                due.is(call + "way " + state + " " + i, x.way(state, i), y.way(state, i));
+                same(call + "way " + state + " " + i, x.way(state, i), y.way(state, i));
                 break;
             }
-            case 2: due.is(call + "can " + sort + " " + what, x.can(sort, what), y.can(sort, what)); break;
-            case 3: due.is(call + "reached", x.reached(), y.reached()); break;
-            case 4: due.is(call + "ways " + n + " " + state, x.ways(n, state), y.ways(n, state)); break;
-            case 5: due.is(call + "allWays " + n, x.allWays(n), y.allWays(n)); break;
-            case 6: due.is(call + "fences " + sort + " " + what, x.fences(sort, what), y.fences(sort, what)); break;
-            case 7: due.is(call + "was " + n + " " + what, x.was(n, what), y.was(n, what)); break;
-            default: due.is(call + "force " + sort, x.force(sort), y.force(sort)); break;
+            case 2: same(call + "can " + sort + " " + what, x.can(sort, what), y.can(sort, what)); break;
+            case 3: same(call + "reached", x.reached(), y.reached()); break;
+            case 4: same(call + "ways " + n + " " + state, x.ways(n, state), y.ways(n, state)); break;
+            case 5: same(call + "allWays " + n, x.allWays(n), y.allWays(n)); break;
+            case 6: same(call + "fences " + sort + " " + what, x.fences(sort, what), y.fences(sort, what)); break;
+            case 7: same(call + "was " + n + " " + what, x.was(n, what), y.was(n, what)); break;
+            default: same(call + "force " + sort, x.force(sort), y.force(sort)); break;
         }
     }
 
@@ -195,9 +212,9 @@ public final class RandomRunsTest {
         int what = near(-1, 8);
         int sort = near(0, 2);
         if (random.nextBoolean()) {
-            due.is(call + "stays " + k + " " + what, x.stays(k, what), y.stays(k, what));
+            same(call + "stays " + k + " " + what, x.stays(k, what), y.stays(k, what));
         } else {
-            due.is(call + "bars " + sort + " " + k, x.bars(sort, k), y.bars(sort, k));
+            same(call + "bars " + sort + " " + k, x.bars(sort, k), y.bars(sort, k));
         }
     }
 
@@ -208,20 +225,20 @@ public final class RandomRunsTest {
             case 0: {
                 int bits = near(0, 4) * 8;
                 int n = near(0, random.nextInt(4) == 0 ? 40 : 6);
-                due.is(call + "sheet " + sheet + " " + bits + " " + n, x.sheet(sheet, bits, n), y.sheet(sheet, bits, n));
+                same(call + "sheet " + sheet + " " + bits + " " + n, x.sheet(sheet, bits, n), y.sheet(sheet, bits, n));
                 break;
             }
             case 1: {
                 int other = near(0, 3);
                 int j = near(0, 4);
                 int n = near(0, 4);
-                due.is(call + "move", x.move(sheet, i, other, j, n), y.move(sheet, i, other, j, n));
+                same(call + "move", x.move(sheet, i, other, j, n), y.move(sheet, i, other, j, n));
                 break;
             }
-            case 2: due.is(call + "judge " + sheet, x.judge(sheet), y.judge(sheet)); break;
+            case 2: same(call + "judge " + sheet, x.judge(sheet), y.judge(sheet)); break;
             default: {
                 int v = near(0, 5) + (random.nextInt(3) == 0 ? 256 * random.nextInt(1000) : 0);
-                due.is(call + "put", x.put(sheet, i, v), y.put(sheet, i, v));
+                same(call + "put", x.put(sheet, i, v), y.put(sheet, i, v));
                 break;
             }
         }
@@ -231,38 +248,37 @@ public final class RandomRunsTest {
         switch (random.nextInt(10)) {
             case 0: {
                 int v = any();
-                due.is(call + "seed", x.seed(v), y.seed(v));
+                same(call + "seed", x.seed(v), y.seed(v));
                 break;
             }
             case 1: {
                 int pair = near(0, 5);
                 int act = near(0, 3);
                 int v = any();
-                due.is(call + "voice " + pair + " " + act + " " + v, x.voice(pair, act, v), y.voice(pair, act, v));
+                same(call + "voice " + pair + " " + act + " " + v, x.voice(pair, act, v), y.voice(pair, act, v));
                 break;
             }
             case 2: {
                 int i = near(0, 14);
-                due.is(call + "trace " + i, x.trace(i), y.trace(i));
+                same(call + "trace " + i, x.trace(i), y.trace(i));
                 break;
             }
-            case 3: due.is(call + "image", x.image(), y.image()); break;
-            case 4: due.is(call + "restore", x.restore(), y.restore()); break;
+            case 3: same(call + "image", x.image(), y.image()); break;
+            case 4: same(call + "restore", x.restore(), y.restore()); break;
             case 5: {
-                int v = random.nextBoolean() ? x.count(0) : stateNear();
-                y.count(0);
-                due.is(call + "tell " + v, x.tell(v), y.tell(v));
+                int v = random.nextBoolean() ? stateNow() : stateNear();
+                same(call + "tell " + v, x.tell(v), y.tell(v));
                 break;
             }
-            case 6: due.is(call + "check", x.check(), y.check()); break;
+            case 6: same(call + "check", x.check(), y.check()); break;
             case 7: {
                 int k = near(1, 5);
-                due.is(call + "told " + k, x.told(k), y.told(k));
+                same(call + "told " + k, x.told(k), y.told(k));
                 break;
             }
             default: {
                 int what = near(0, 7);
-                due.is(call + "count " + what, x.count(what), y.count(what));
+                same(call + "count " + what, x.count(what), y.count(what));
                 break;
             }
         }
